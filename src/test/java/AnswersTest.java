@@ -3,6 +3,7 @@ public final class AnswersTest {
     public static void main(String[] args) {
         best();
         courseOfFew();
+        courseOfTheStrongest();
         courseByLaws();
         courseRefusals();
         split();
@@ -28,6 +29,11 @@ public final class AnswersTest {
         best(x, 2, 24, 15, 0);
         best(x, 2, 25, 15, 25);
         best(x, 2, 26, 1, 30);
+        Posts.post(x, "pw02m01l01");
+        best(x, 0, 1, 2, 0);
+        best(x, 0, 2, 2, 2);
+        best(x, 1, 1, 1, 0);
+        Posts.post(x, "pw20m12l15");
         x.law(1);
         best(x, 0, 1, 1, 1);
         best(x, 0, 2, 1, 0);
@@ -88,6 +94,15 @@ public final class AnswersTest {
         course(x, new int[] {1, 0}, 2, 1, new int[] {0, 1}, 2);
         x.law(1);
         course(x, who, 2, 9, new int[] {1, 1}, 1, 1);
+    }
+
+    private static void courseOfTheStrongest() {
+        AnswerPost x = Posts.of("pm37w40l40l40");
+        // What three letters left of a weight of 40 is nothing to two.
+        course(x, new int[] {0, 1}, 3, 999, new int[] {0, 10}, 1, 1, 1);
+        course(x, new int[] {0, 1}, 2, 41, new int[] {9, 0}, 1, 5);
+        x.law(2);
+        course(x, new int[] {2, 3}, 8, 999, new int[] {28, 28}, 1, 1, 1, 1, 1, 1, 1, 1);
     }
 
     private static void courseByLaws() {
@@ -159,6 +174,7 @@ public final class AnswersTest {
         Posts.row(x, 1, 150);
         split(x, 2, 99, 1, 0, 99);
         split(x, 2, 98, 1, 150, 98);
+        split(x, 0, 1, 1, 151, 1);
         x.sheet(2, 0, 3);
         x.put(2, 1, 5);
         x.put(2, 2, 9);

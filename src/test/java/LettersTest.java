@@ -46,6 +46,10 @@ public final class LettersTest {
         Check.due("day 100", x.answer(0, 1, 100), -2);
         Check.due("day -1", x.answer(0, 1, -1), -2);
         Check.due("an earlier day", x.answer(0, 1, 4), -2);
+        Check.due("the least weight", x.answer(0, 1, 5), 1);
+        x.burn(1);
+        Check.due("the most weight", x.answer(0, 99, 5), 1);
+        x.burn(1);
         Check.due("the same day", x.answer(0, 7, 5), 1);
         Check.due("answered", x.answer(0, 7, 6), -3);
         Check.due("outside ahead of answered", x.answer(0, 7, 4), -2);
@@ -172,6 +176,13 @@ public final class LettersTest {
         Check.due("net of 1", x.net(1, 10), 1000000 - 50 + 70);
         Check.due("net of 2", x.net(2, 10), 1000000 - 70);
         Check.due("net on day 0", x.net(2, 0), 1000000);
+        for (int k = 2; k < 24; k++) {
+            x.send(1, 2, 1, 90);
+        }
+        Check.due("net of 24 letters", x.net(2, 91), 1000000 - 91 * 7 - 22 * 4);
+        Check.due("owes of 24 letters", x.owes(2, 1, 91), 91 * 7 + 22 * 4);
+        Check.due("paid of 24 letters", x.paid(2, 91), 0);
+        Check.due("settled of 24 letters", x.settled(91), 2);
         Check.due("person 3", x.net(3, 100), -1);
         Check.due("person -1", x.net(-1, 0), -1);
         Check.due("day 100", x.net(0, 100), -2);

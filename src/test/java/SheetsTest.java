@@ -28,8 +28,10 @@ public final class SheetsTest {
         Check.due("fault none", x.fault(), 0);
         Check.due("0 at first", x.cell(3, 39, 1), 0);
         x.put(3, 39, 5);
+        x.put(3, 0, 5);
         Check.due("a new row", x.sheet(3, 1, 40), 1);
         Check.due("0 anew", x.cell(3, 39, 1), 0);
+        Check.due("0 anew", x.cell(3, 0, 1), 0);
         Check.due("n 0", x.sheet(2, 2, 0), 1);
         Check.due("no cells", x.put(2, 0, 1), -13);
         Check.due("a shorter row", x.sheet(3, 2, 1), 1);

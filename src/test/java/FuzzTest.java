@@ -92,7 +92,7 @@ public final class FuzzTest {
         StringBuilder text = new StringBuilder("p");
         int persons = 2 + random.nextInt(5);
         for (int p = 0; p < persons; p++) {
-            int lift = 1 + random.nextInt(40);
+            int lift = random.nextInt(4) == 0 ? 40 : 1 + random.nextInt(40);
             text.append("wml".charAt(random.nextInt(3))).append(lift / 10).append(lift % 10);
         }
         if (random.nextInt(3) == 0) {

@@ -1,0 +1,13 @@
+/** Every sentence of the terms and of the thirty promises, held on both sides of the bounds that it names. */
+public final class EdgesTest {
+    public static void main(String[] args) {
+        PostEdges.hold();
+        LetterEdges.hold();
+        AnswerEdges.hold();
+        LawEdges.hold();
+        SheetEdges.hold();
+        OrderEdges.hold();
+        Sentences.noneIsLeftOut();
+        Check.end();
+    }
+}

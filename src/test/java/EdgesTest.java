@@ -1,6 +1,7 @@
-/** Every sentence of the terms and of the thirty promises, held on both sides of the bounds that it names. */
+/** Every sentence of the document's prose, terms and thirty promises, held on both sides of the bounds that it names. */
 public final class EdgesTest {
     public static void main(String[] args) {
+        WholeEdges.hold();
         PostEdges.hold();
         LetterEdges.hold();
         AnswerEdges.hold();

@@ -1,17 +1,18 @@
-import java.lang.reflect.Array;
+import java.io.IOException;
 import java.lang.reflect.Field;
 import java.lang.reflect.Method;
 import java.lang.reflect.Modifier;
-import java.util.ArrayDeque;
+import java.nio.file.Files;
+import java.nio.file.Path;
 import java.util.ArrayList;
 import java.util.Arrays;
 import java.util.Collections;
-import java.util.Deque;
-import java.util.IdentityHashMap;
 import java.util.List;
 import java.util.Map;
+import java.util.regex.Matcher;
+import java.util.regex.Pattern;
 
-/** The public face, promise 1 (a new object), and how much room a new object takes. */
+/** The public face as the document tells it, promise 1 (a new object), and how much room a new object takes. */
 public final class FaceTest {
     private static final String[] FACE = {
         "int answer(int,int,int)", "int as(int,int)", "int best(int,int,int)", "int burn(int)",
@@ -24,9 +25,15 @@ public final class FaceTest {
         "int weights(int,int,int,int,int)", "long cell(int,int,int)"
     };
 
-    public static void main(String[] args) throws IllegalAccessException {
+    public static void main(String[] args) throws IOException {
+        String source = Files.readString(Path.of(args.length > 0 ? args[0] : "src/main/java/AnswerPost.java"));
         constants();
         members();
+        constructor();
+        if (Document.isThere()) {
+            asTheDocumentTells(source);
+            partsOfTheInterface(source);
+        }
         newObject();
         room();
         Check.end();
@@ -70,6 +77,56 @@ public final class FaceTest {
         }
     }
 
+    private static void constructor() {
+        Check.due("constructors", AnswerPost.class.getDeclaredConstructors().length, 1);
+        Check.due("public constructors", AnswerPost.class.getConstructors().length, 1);
+        Check.holds("the class is public and final",
+            Modifier.isPublic(AnswerPost.class.getModifiers()) && Modifier.isFinal(AnswerPost.class.getModifiers()));
+        for (Class<?> inside : AnswerPost.class.getDeclaredClasses()) {
+            Check.holds(inside.getName() + " is static and not public",
+                Modifier.isStatic(inside.getModifiers()) && !Modifier.isPublic(inside.getModifiers()));
+        }
+    }
+
+    /** The document's first line, and each line of 'The public face' and at the head of a promise. */
+    private static void asTheDocumentTells(String source) {
+        Check.holds("the document is of " + Document.name(), AnswerPost.class.getName().equals(Document.name()));
+        Check.holds("the class begins as told", source.contains("\n" + Document.head() + "\n"));
+        List<String> face = Document.face();
+        Check.due("lines of the face: two of constants, the constructor, the methods", face.size(), 3 + FACE.length);
+        int at = 0;
+        for (String line : face) {
+            boolean isConstant = line.contains(" = ");
+            String written = "\n    " + (isConstant ? line : line.replace(";", " {")) + "\n";
+            int found = source.indexOf(written, at);
+            Check.holds("the class has, in the document's order, " + line, found >= 0);
+            at = Math.max(at, found);
+        }
+        List<String> heads = Document.heads();
+        Check.due("heads of promises: the constructor, the methods", heads.size(), 1 + FACE.length);
+        for (String head : heads) {
+            Check.holds("the face has the promise's " + head, face.contains("public " + head + ";"));
+        }
+    }
+
+    /** What the interface says ahead of calls: each part's methods stand behind its line, and no other ones. */
+    private static void partsOfTheInterface(String source) {
+        Map<String, List<String>> parts = Document.parts();
+        Check.due("parts of the interface", parts.size(), 5);
+        for (Map.Entry<String, List<String>> part : parts.entrySet()) {
+            int from = source.indexOf("\n    // " + part.getKey() + "\n");
+            Check.holds("the class says: " + part.getKey(), from >= 0);
+            String behind = source.substring(Math.max(from, 0));
+            int end = behind.indexOf("\n    // ---- ", 1);
+            Matcher m = Pattern.compile("(?m)^    public \\w+ (\\w+)\\(").matcher(end < 0 ? behind : behind.substring(0, end));
+            List<String> calls = new ArrayList<>();
+            while (m.find()) {
+                calls.add(m.group(1));
+            }
+            Check.holds(part.getKey() + ": " + part.getValue() + ", found " + calls, part.getValue().equals(calls));
+        }
+    }
+
     private static void newObject() {
         AnswerPost x = new AnswerPost();
         for (int what = 0; what < 3; what++) {
@@ -88,38 +145,10 @@ public final class FaceTest {
     }
 
     /** All calls of one run live in one room, so a new object has to be small. */
-    private static void room() throws IllegalAccessException {
-        Map<Object, Boolean> seen = new IdentityHashMap<>();
-        Deque<Object> open = new ArrayDeque<>();
-        open.add(new AnswerPost());
-        int parts = 0;
-        while (!open.isEmpty()) {
-            Object one = open.pop();
-            if (seen.put(one, true) != null) {
-                continue;
-            }
-            if (one.getClass().isArray()) {
-                parts += Array.getLength(one);
-                if (one instanceof Object[] row) {
-                    Arrays.stream(row).filter(r -> r != null).forEach(open::add);
-                }
-                continue;
-            }
-            for (Class<?> c = one.getClass(); c != Object.class; c = c.getSuperclass()) {
-                for (Field f : c.getDeclaredFields()) {
-                    if (Modifier.isStatic(f.getModifiers())) {
-                        continue;
-                    }
-                    parts++;
-                    f.setAccessible(true);
-                    if (!f.getType().isPrimitive() && f.get(one) != null) {
-                        open.add(f.get(one));
-                    }
-                }
-            }
-        }
-        System.out.println("a new object: " + seen.size() + " objects and arrays, " + parts + " fields and elements");
-        Check.holds("a new object takes few objects", seen.size() <= 100);
-        Check.holds("a new object takes few fields and elements", parts <= 3000);
+    private static void room() {
+        Room taken = Room.of(new AnswerPost());
+        System.out.println("a new object: " + taken.objects() + " objects and arrays, " + taken.parts() + " fields and elements");
+        Check.holds("a new object takes few objects", taken.objects() <= 100);
+        Check.holds("a new object takes few fields and elements", taken.parts() <= 3000);
     }
 }

@@ -1,4 +1,4 @@
-/** REFUSALS and FAULTS of the terms: what they are, which of two comes first, and that 512 calls are answered. */
+/** REFUSALS and FAULTS of the terms: what they are, and which of two comes first. */
 final class OrderEdges {
     private OrderEdges() {
     }
@@ -14,7 +14,6 @@ final class OrderEdges {
         ofLaws();
         ofSheets();
         ofCopy();
-        lastCalls();
     }
 
     private static void refusals() {
@@ -181,18 +180,5 @@ final class OrderEdges {
         new Order(() -> scales().row(3, 1, 2, 3), "copy(k=1, i=0, other=3, j=0, n=2) = 2")
             .told("UNKNOWN", "k=-1", "k=4", "other=-1", "other=4").told("NULL", "k=2", "other=2").told("CAST", "k=0", "other=0")
             .told("INDEX", "i=-1", "i=8", "i=10", "j=-1", "j=2", "j=4", "n=-1", "n=4").hold();
-    }
-
-    private static void lastCalls() {
-        Sentences.whatItIs("An object is used for at most 512 calls after it has been made;");
-        AnswerPost x = Posts.of("pw10m05");
-        // So far 9 calls were made: a sheet, seven codes, a post.
-        int trace = 0;
-        for (int call = 10; call <= 510; call++) {
-            Check.due(Sentences.now() + call, x.tell(0), 10);
-            trace = 31 * trace + 1;
-        }
-        Check.due(Sentences.now() + "call 511", x.trace(), trace);
-        Check.due(Sentences.now() + "call 512", x.post(0, 0, 0, 7), 2);
     }
 }

@@ -1,14 +1,10 @@
-import java.io.IOException;
-import java.nio.file.Files;
-import java.nio.file.Path;
 import java.util.LinkedHashMap;
 import java.util.Map;
 
 /** The sentences of the document that tests hold: each stands there as it is told here, and none is left out. */
 final class Sentences {
-    private static final Path DOC = Path.of("../shared/DOC.md");
     private static final int PROMISES = 30;
-    private static final Map<String, String> SECTIONS = sections();
+    private static final Map<String, String> SECTIONS = Document.sections();
     private static final Map<String, boolean[]> HELD = new LinkedHashMap<>();
     private static String now = "";
 
@@ -34,11 +30,14 @@ final class Sentences {
         return now;
     }
 
-    /** Every word of the terms and of the promises is in a sentence that was held. */
+    /** Every word of what it is, of the terms and of the promises is in a sentence that was held. */
     static void noneIsLeftOut() {
         if (SECTIONS.isEmpty()) {
             return;
         }
+        long promises = SECTIONS.keySet().stream().filter(heading -> heading.startsWith("Promise ")).count();
+        Check.due("promises of the document", promises, PROMISES);
+        leftOut("What it is");
         leftOut("Terms");
         for (int k = 1; k <= PROMISES; k++) {
             leftOut("Promise " + k);
@@ -69,26 +68,5 @@ final class Sentences {
             left.append(held[i] ? ' ' : text.charAt(i));
         }
         Check.holds(section + ": a test holds '" + left.toString().trim().replaceAll(" +", " ") + "'", left.toString().isBlank());
-    }
-
-    /** The sections by their headings, without what is not prose: a call's head, fences, the parts' names. */
-    private static Map<String, String> sections() {
-        Map<String, String> found = new LinkedHashMap<>();
-        if (!Files.isReadable(DOC)) {
-            System.out.println(DOC + " is not there: sentences are not held against it");
-            return found;
-        }
-        try {
-            for (String section : Files.readString(DOC).split("(?m)^## ")) {
-                int end = section.indexOf('\n');
-                String heading = section.substring(0, Math.max(end, 0)).replaceAll(":.*", "").trim();
-                String text = section.substring(Math.max(end, 0)).replaceAll("(?m)^```.*$|^Ahead of .*$|^==== \\d", "")
-                    .replaceAll("(?s)\\A\\s*`[^`]*`:", "");
-                found.put(heading, text.replaceAll("\\s+", " ").trim());
-            }
-        } catch (IOException e) {
-            throw new IllegalStateException(e);
-        }
-        return found;
     }
 }
